@@ -1,0 +1,32 @@
+/** Counts and prints the answers that are not as due; the tests of this folder end with exit code 1 by it. */
+final class Check {
+    private static int wrong = 0;
+
+    private Check() {
+    }
+
+    static void due(String call, long got, long want) {
+        if (got != want) {
+            wrong++;
+            System.out.println(call + " answered " + got + ", due is " + want);
+        }
+    }
+
+    static void due(String call, boolean got, boolean want) {
+        due(call, got ? 1L : 0L, want ? 1L : 0L);
+    }
+
+    static void holds(String claim, boolean holds) {
+        if (!holds) {
+            wrong++;
+            System.out.println("does not hold: " + claim);
+        }
+    }
+
+    static void end(String test) {
+        System.out.println(test + ": " + (wrong == 0 ? "all answers are as due" : wrong + " answers are not as due"));
+        if (wrong != 0) {
+            System.exit(1);
+        }
+    }
+}

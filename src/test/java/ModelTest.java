@@ -1,0 +1,276 @@
+import java.util.Random;
+
+/** Runs of calls, the same ones each time, on RunPictures and on the Model: each answer must be the same. */
+public final class ModelTest {
+    private static final String[] NAMES = {
+        "puzzle", "run", "told", "clue", "fresh", "choose", "bar", "set", "step", "ways", "settle", "search", "found",
+        "picture", "grade", "probes", "paint", "make", "turn", "same", "game", "mark", "marked", "undo", "redo", "hint",
+        "state", "write", "out", "count"
+    };
+    private static final int[] ODD = {-2, -1, 1000, Integer.MAX_VALUE, Integer.MIN_VALUE, 1 << 16, 32, 31};
+
+    private final Random random;
+    private final RunPictures real = new RunPictures();
+    private final Model model = new Model();
+    private final StringBuilder told = new StringBuilder();
+    private int calls = 0;
+
+    private ModelTest(long seed) {
+        random = new Random(seed);
+        told.append("seed ").append(seed).append('\n');
+    }
+
+    private int call(String name, int... args) {
+        if (calls >= 512) {
+            return -1;
+        }
+        calls++;
+        int[] a = java.util.Arrays.copyOf(args, 4);
+        long got = onReal(name, a);
+        long want = onModel(name, a);
+        told.append(name).append(java.util.Arrays.toString(args)).append(" -> ").append(got).append('\n');
+        if (got != want) {
+            System.out.println(told);
+            Check.due("the last call", got, want);
+            Check.end("ModelTest");
+        }
+        return (int) want;
+    }
+
+    private long onReal(String name, int[] a) {
+        return switch (name) {
+            case "puzzle" -> real.puzzle(a[0], a[1], a[2]);
+            case "run" -> real.run(a[0], a[1], a[2], a[3]);
+            case "told" -> real.told(a[0], a[1]);
+            case "clue" -> real.clue(a[0], a[1], a[2], a[3]);
+            case "fresh" -> real.fresh(a[0]) ? 1 : 0;
+            case "choose" -> real.choose(a[0], a[1], a[2]) ? 1 : 0;
+            case "bar" -> real.bar(a[0], a[1], a[2]) ? 1 : 0;
+            case "set" -> real.set(a[0], a[1]);
+            case "step" -> real.step(a[0], a[1]);
+            case "ways" -> real.ways(a[0], a[1]);
+            case "settle" -> real.settle(a[0]);
+            case "search" -> real.search(a[0], a[1], a[2]);
+            case "found" -> real.found(a[0]);
+            case "picture" -> real.picture(a[0], a[1]);
+            case "grade" -> real.grade(a[0]);
+            case "probes" -> real.probes();
+            case "paint" -> real.paint(a[0], a[1], a[2]) ? 1 : 0;
+            case "make" -> real.make(a[0], a[1], a[2]);
+            case "turn" -> real.turn(a[0], a[1]);
+            case "same" -> real.same(a[0], a[1]);
+            case "game" -> real.game(a[0]);
+            case "mark" -> real.mark(a[0], a[1], a[2]) ? 1 : 0;
+            case "marked" -> real.marked(a[0], a[1]);
+            case "undo" -> real.undo(a[0]);
+            case "redo" -> real.redo(a[0]);
+            case "hint" -> real.hint(a[0]);
+            case "state" -> real.state(a[0], a[1]);
+            case "write" -> real.write(a[0], a[1]);
+            case "out" -> real.out(a[0]);
+            default -> real.count(a[0]);
+        };
+    }
+
+    private long onModel(String name, int[] a) {
+        return switch (name) {
+            case "puzzle" -> model.puzzle(a[0], a[1], a[2]);
+            case "run" -> model.run(a[0], a[1], a[2], a[3]);
+            case "told" -> model.told(a[0], a[1]);
+            case "clue" -> model.clue(a[0], a[1], a[2], a[3]);
+            case "fresh" -> model.fresh(a[0]) ? 1 : 0;
+            case "choose" -> model.choose(a[0], a[1], a[2]) ? 1 : 0;
+            case "bar" -> model.bar(a[0], a[1], a[2]) ? 1 : 0;
+            case "set" -> model.set(a[0], a[1]);
+            case "step" -> model.step(a[0], a[1]);
+            case "ways" -> model.ways(a[0], a[1]);
+            case "settle" -> model.settle(a[0]);
+            case "search" -> model.search(a[0], a[1], a[2]);
+            case "found" -> model.found(a[0]);
+            case "picture" -> model.picture(a[0], a[1]);
+            case "grade" -> model.grade(a[0]);
+            case "probes" -> model.probes();
+            case "paint" -> model.paint(a[0], a[1], a[2]) ? 1 : 0;
+            case "make" -> model.make(a[0], a[1], a[2]);
+            case "turn" -> model.turn(a[0], a[1]);
+            case "same" -> model.same(a[0], a[1]);
+            case "game" -> model.game(a[0]);
+            case "mark" -> model.mark(a[0], a[1], a[2]) ? 1 : 0;
+            case "marked" -> model.marked(a[0], a[1]);
+            case "undo" -> model.undo(a[0]);
+            case "redo" -> model.redo(a[0]);
+            case "hint" -> model.hint(a[0]);
+            case "state" -> model.state(a[0], a[1]);
+            case "write" -> model.write(a[0], a[1]);
+            case "out" -> model.out(a[0]);
+            default -> model.count(a[0]);
+        };
+    }
+
+    private int below(int bound) {
+        return random.nextInt(Math.max(1, bound));
+    }
+
+    /** Mostly 0 .. bound, sometimes far outside. */
+    private int around(int bound) {
+        return below(30) == 0 ? ODD[below(ODD.length)] : below(bound + 1);
+    }
+
+    private int somePuzzle() {
+        return below(25) == 0 ? around(31) : below(model.count(0));
+    }
+
+    private int someGame() {
+        return below(25) == 0 ? around(21) : below(model.count(1));
+    }
+
+    private int someCell(int p) {
+        return around(Math.max(1, model.told(p, 0) * model.told(p, 1)) - (below(20) == 0 ? 0 : 1));
+    }
+
+    private int someLine(int p) {
+        return around(Math.max(1, model.told(p, 0) + model.told(p, 1)) - (below(20) == 0 ? 0 : 1));
+    }
+
+    /** Any call with arguments that are mostly fit for it. */
+    private void anyCall(int side) {
+        String name = NAMES[below(NAMES.length)];
+        int p = somePuzzle();
+        int g = someGame();
+        int ofGame = model.state(g, 0);
+        switch (name) {
+            case "puzzle", "make" -> {
+                if (below(3) == 0) {
+                    call(name, 1 + around(side - 1), 1 + around(side - 1), below(3) + 1);
+                } else if (below(5) == 0) {
+                    call(name, around(11), around(11), around(4));
+                }
+            }
+            case "run" -> call(name, p, someLine(p), below(10) == 0 ? around(4) : 1 + below(model.told(p, 2)), around(below(4) == 0 ? 10 : 2));
+            case "told" -> call(name, p, around(5));
+            case "clue" -> call(name, p, someLine(p), around(3), around(2));
+            case "fresh", "settle", "grade" -> call(name, p);
+            case "game" -> {
+                if (below(4) == 0) {
+                    call(name, p);
+                }
+            }
+            case "choose", "bar" -> call(name, p, someCell(p), around(3));
+            case "set" -> call(name, p, someCell(p));
+            case "step", "ways", "write" -> call(name, p, someLine(p));
+            case "search" -> call(name, p, below(3) == 0 ? below(5) : around(201), below(10) == 0 ? around(6) : 1 + below(5));
+            case "found" -> call(name, below(4) - 3);
+            case "picture" -> call(name, around(2), someCell(p));
+            case "probes" -> call(name);
+            case "paint" -> call(name, around(below(5) == 0 ? 10 : side - 1), around(below(5) == 0 ? 10 : side - 1), around(3));
+            case "turn" -> call(name, p, around(8));
+            case "same" -> call(name, p, somePuzzle());
+            case "mark" -> call(name, g, someCell(ofGame), below(6) == 0 ? around(4) : below(model.told(ofGame, 2) + 2) - 1);
+            case "marked" -> call(name, g, someCell(ofGame));
+            case "undo", "redo", "hint" -> call(name, g);
+            case "state" -> call(name, g, around(7));
+            case "out" -> call(name, around(12));
+            default -> call(name, around(2));
+        }
+    }
+
+    private void anyCalls() {
+        int side = 1 + below(6);
+        call("puzzle", 1 + below(side), 1 + below(side), 1 + below(3));
+        while (calls < 512) {
+            int before = calls;
+            for (int i = 0; i < 100 && calls == before; i++) {
+                anyCall(side);
+            }
+        }
+    }
+
+    private int paintedPuzzle(int width, int height, int colours, int blanks) {
+        for (int y = 0; y < height; y++) {
+            for (int x = 0; x < width; x++) {
+                call("paint", x, y, below(100) < blanks ? 0 : 1 + below(colours));
+            }
+        }
+        return call("make", width, height, colours);
+    }
+
+    private void lookAtDesk(int p) {
+        for (int cell = 0; cell < model.told(p, 0) * model.told(p, 1); cell++) {
+            call("set", p, cell);
+        }
+    }
+
+    /** A picture's puzzle: solved, graded, searched, turned. */
+    private void pictureCalls() {
+        int width = 1 + below(10);
+        int height = 1 + below(10);
+        int p = paintedPuzzle(width, height, 1 + below(3), 10 + below(85));
+        call("grade", p);
+        call("probes");
+        call("search", p, below(201), 1 + below(5));
+        call("found", -1);
+        call("found", -2);
+        for (int i = 0; i < 40; i++) {
+            call("picture", below(2), below(width * height));
+        }
+        call("step", p, below(width + height));
+        for (int line = 0; line < width + height; line++) {
+            call("ways", p, line);
+        }
+        call("settle", p);
+        lookAtDesk(p);
+        for (int i = 0; i < 15; i++) {
+            call(below(3) == 0 ? "choose" : "bar", p, below(width * height), below(4));
+            call("ways", p, below(width + height));
+            call(below(2) == 0 ? "settle" : "step", p, below(width + height));
+            call("search", p, below(20), 1 + below(5));
+            call("found", -2);
+        }
+        int q = call("turn", p, below(8));
+        call("same", p, q);
+        call("same", q, p);
+        call("grade", q);
+        call("probes");
+        while (calls < 512) {
+            call("write", q, below(width + height));
+            call("out", below(6));
+            call("picture", below(3), below(width * height));
+        }
+    }
+
+    /** Games that follow the hints and go astray now and then. */
+    private void gameCalls() {
+        int width = 1 + below(7);
+        int height = 1 + below(7);
+        int colours = 1 + below(3);
+        int p = paintedPuzzle(width, height, colours, 10 + below(60));
+        int g = call("game", p);
+        while (calls < 512) {
+            int advice = call("hint", g);
+            boolean astray = below(12) == 0;
+            if (advice >= 0 && !astray) {
+                call("mark", g, advice / 4, advice % 4);
+            } else if (advice < -1 && below(2) == 0) {
+                call("undo", g);
+            } else if (below(3) == 0) {
+                call("redo", g);
+            } else {
+                call("mark", g, below(width * height), below(colours + 2) - 1);
+            }
+            call("state", g, below(7));
+            call("state", g, 3);
+            call("marked", g, below(width * height));
+        }
+    }
+
+    public static void main(String[] args) {
+        int rounds = args.length > 0 ? Integer.parseInt(args[0]) : 60;
+        long start = args.length > 1 ? Long.parseLong(args[1]) : 0;
+        for (long seed = start; seed < start + rounds; seed++) {
+            new ModelTest(seed * 3).anyCalls();
+            new ModelTest(seed * 3 + 1).pictureCalls();
+            new ModelTest(seed * 3 + 2).gameCalls();
+        }
+        Check.end("ModelTest");
+    }
+}
