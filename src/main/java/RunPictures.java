@@ -784,7 +784,7 @@ public final class RunPictures {
     /** One search that is still open: its sets, at rest, the cell that is tried, and the colour to look at next. */
     private static final class Level {
         final int[] sets;
-        private int cell;
+        int cell;
         private int nextColour;
 
         Level() {
@@ -945,7 +945,10 @@ public final class RunPictures {
                     if (probeCount >= MOST_PROBES) {
                         return OUT_OF_PROBES;
                     }
-                    if (!breaksWith(puzzle, cell, colour)) {
+                    probeCount++;
+                    System.arraycopy(sets, 0, trial, 0, puzzle.cells);
+                    trial[cell] = 1 << colour;
+                    if (settler.bringToRest(puzzle, trial, puzzle.linesThrough(cell)) != BROKEN) {
                         continue;
                     }
                     taken++;
@@ -956,13 +959,6 @@ public final class RunPictures {
                 }
             }
             return taken;
-        }
-
-        private boolean breaksWith(Puzzle puzzle, int cell, int colour) {
-            probeCount++;
-            System.arraycopy(sets, 0, trial, 0, puzzle.cells);
-            trial[cell] = 1 << colour;
-            return settler.bringToRest(puzzle, trial, puzzle.linesThrough(cell)) == BROKEN;
         }
     }
 

@@ -31,6 +31,7 @@ public final class GameTest {
         }
         Check.due("a 21st game", x.game(0), -1);
         Check.due("games", x.count(1), 20);
+        Check.due("state of a 21st game", x.state(20, 0), -1);
         Check.due("puzzle of game 18", x.state(18, 0), 0);
         Check.due("puzzle of game 19", x.state(19, 0), 1);
         x.mark(19, 2, 2);

@@ -1,3 +1,4 @@
+import java.util.Arrays;
 import java.util.Random;
 
 /** Runs of calls, the same ones each time, on RunPictures and on the Model: each answer must be the same. */
@@ -25,10 +26,10 @@ public final class ModelTest {
             return -1;
         }
         calls++;
-        int[] a = java.util.Arrays.copyOf(args, 4);
+        int[] a = Arrays.copyOf(args, 4);
         long got = onReal(name, a);
         long want = onModel(name, a);
-        told.append(name).append(java.util.Arrays.toString(args)).append(" -> ").append(got).append('\n');
+        told.append(name).append(Arrays.toString(args)).append(" -> ").append(got).append('\n');
         if (got != want) {
             System.out.println(told);
             Check.due("the last call", got, want);
@@ -238,6 +239,41 @@ public final class ModelTest {
         }
     }
 
+    /** The clues of a picture come run by run, some lines' backwards: often there is no picture then. */
+    private void mixedCalls() {
+        int width = 2 + below(6);
+        int height = 2 + below(8);
+        int colours = 1 + below(2);
+        int p = paintedPuzzle(width, height, colours, 30 + below(40));
+        int q = call("puzzle", width, height, colours);
+        for (int line = 0; line < width + height; line++) {
+            boolean backwards = below(width + height) == 0;
+            int runs = 0;
+            while (model.clue(p, line, runs, 0) > 0) {
+                runs++;
+            }
+            for (int i = 0; i < runs; i++) {
+                int from = backwards ? runs - 1 - i : i;
+                call("run", q, line, model.clue(p, line, from, 0), model.clue(p, line, from, 1));
+            }
+        }
+        call("same", p, q);
+        call("grade", q);
+        call("probes");
+        call("search", q, 200, 5);
+        call("found", -2);
+        call("settle", q);
+        lookAtDesk(q);
+        for (int i = 0; i < 20; i++) {
+            call("bar", q, below(width * height), below(colours + 1));
+            call("settle", q);
+            call("search", q, 200, 1 + below(5));
+            call("found", -2);
+            call("told", q, 4);
+        }
+        call("grade", q);
+    }
+
     /** Games that follow the hints and go astray now and then. */
     private void gameCalls() {
         int width = 1 + below(7);
@@ -264,12 +300,13 @@ public final class ModelTest {
     }
 
     public static void main(String[] args) {
-        int rounds = args.length > 0 ? Integer.parseInt(args[0]) : 60;
+        int rounds = args.length > 0 ? Integer.parseInt(args[0]) : 200;
         long start = args.length > 1 ? Long.parseLong(args[1]) : 0;
         for (long seed = start; seed < start + rounds; seed++) {
-            new ModelTest(seed * 3).anyCalls();
-            new ModelTest(seed * 3 + 1).pictureCalls();
-            new ModelTest(seed * 3 + 2).gameCalls();
+            new ModelTest(seed * 4).anyCalls();
+            new ModelTest(seed * 4 + 1).pictureCalls();
+            new ModelTest(seed * 4 + 2).mixedCalls();
+            new ModelTest(seed * 4 + 3).gameCalls();
         }
         Check.end("ModelTest");
     }

@@ -63,6 +63,7 @@ public final class PuzzleTest {
         Check.due("puzzles", x.count(0), 30);
         Check.due("run of the 30th", x.run(29, 0, 1, 2), 1);
         Check.due("run of the 31st", x.run(30, 0, 1, 2), -1);
+        Check.due("told of the 31st", x.told(30, 0), -1);
     }
 
     private static void run() {
