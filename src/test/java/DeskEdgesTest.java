@@ -65,7 +65,8 @@ public final class DeskEdgesTest {
             puzzle(2, 3, 1); bar(0, [6 7 -1 100 MAX MIN], [0 1]) -> 0; set(0, [0..5]) -> 3
             """);
         Talk.edge("8: false if it isn't in the SET", """
-            puzzle(1, 1, 3); bar(0, 0, 2) -> 1; bar(0, 0, 2) -> 0; set(0, 0) -> 11; choose(0, 0, 3); bar(0, 0, [0 1 2]) -> 0
+            puzzle(1, 1, 3); bar(0, 0, 2) -> 1; bar(0, 0, 2) -> 0; set(0, 0) -> 11; choose(0, 0, 3)
+            bar(0, 0, [0 1 2]) -> 0
             set(0, 0) -> 8
             """);
         Talk.edge("8: a colour that there is not isn't in the SET", """
@@ -84,7 +85,9 @@ public final class DeskEdgesTest {
             puzzle(4, 1, 3); choose(0, 0, 0); choose(0, 1, 1); choose(0, 2, 2); choose(0, 3, 3)
             set(0, 0) -> 1; set(0, 1) -> 2; set(0, 2) -> 4; set(0, 3) -> 8; fresh(0); bar(0, 0, [0 2]); set(0, 0) -> 10
             """);
-        Talk.edge("9: 0 if there is no such puzzle", "set([0 -1 MAX MIN], 0) -> 0; puzzle(1, 1, 1); set([1 -1 30 MAX MIN], 0) -> 0");
+        Talk.edge("9: 0 if there is no such puzzle", """
+            set([0 -1 MAX MIN], 0) -> 0; puzzle(1, 1, 1); set([1 -1 30 MAX MIN], 0) -> 0
+            """);
         Talk.edge("9: 0 if there is no such cell", """
             puzzle(3, 2, 1); set(0, [6 7 -1 100 MAX MIN]) -> 0; set(0, [0 5]) -> 3; puzzle(10, 10, 3); set(1, 99) -> 15
             set(1, [100 101 -1]) -> 0
@@ -113,7 +116,8 @@ public final class DeskEdgesTest {
             step([0 -1 MAX MIN], 0) -> -1; puzzle(2, 2, 1); step([1 -1 30 MAX MIN], 0) -> -1; told(0, 4) -> 0
             """);
         Talk.edge("10: NONE if there is no such LINE", """
-            puzzle(4, 3, 1); step(0, [7 8 -1 20 MAX MIN]) -> -1; told(0, 4) -> 0; step(0, [0 1 2]) -> 4; step(0, [3..6]) -> 0
+            puzzle(4, 3, 1); step(0, [7 8 -1 20 MAX MIN]) -> -1; told(0, 4) -> 0; step(0, [0 1 2]) -> 4
+            step(0, [3..6]) -> 0
             """);
     }
 
@@ -142,14 +146,18 @@ public final class DeskEdgesTest {
             ways(0, 0) -> 1; choose(0, 2, 1); ways(0, 0) -> 0; fresh(0); ways(0, 0) -> 10
             """);
         Talk.ofClues("11: the most that a LINE can have", 10, 1, 2, "1a 1b 1a 1b 1a").script("ways(0, 0) -> 252");
-        Talk.ofClues("11: one alone, if the RUNS fill the LINE", 10, 2, 1, "10a/1a 1a 1a 1a 2a").script("ways(0, [0 1]) -> 1");
+        Talk.ofClues("11: one alone, if the RUNS fill the LINE", 10, 3, 3, "10a/1a 1a 1a 1a 2a/1a 1b 1c 1a 1b 1c 1a 1b 1c 1a")
+            .script("ways(0, [0 1 2]) -> 1; choose(0, [9 19 29], 1) -> 1; ways(0, [0 1 2]) -> 1");
         Talk.edge("11: none of a BROKEN LINE, which takes nothing", """
-            puzzle(2, 1, 1); choose(0, 1, 1); ways(0, 0) -> 0; ways(0, 1) -> 1; ways(0, 2) -> 0; set(0, 0) -> 3; set(0, 1) -> 2
+            puzzle(2, 1, 1); choose(0, 1, 1); ways(0, 0) -> 0; ways(0, 1) -> 1; ways(0, 2) -> 0; set(0, 0) -> 3
+            set(0, 1) -> 2
             """);
         Talk.edge("11: NONE if there is no such puzzle", """
             ways([0 -1 MAX MIN], 0) -> -1; puzzle(2, 2, 1); ways([1 -1 30 MAX MIN], 0) -> -1
             """);
-        Talk.edge("11: NONE if there is no such LINE", "puzzle(4, 3, 1); ways(0, [7 8 -1 20 MAX MIN]) -> -1; ways(0, 6) -> 1");
+        Talk.edge("11: NONE if there is no such LINE", """
+            puzzle(4, 3, 1); ways(0, [7 8 -1 20 MAX MIN]) -> -1; ways(0, 6) -> 1
+            """);
     }
 
     private static void settle() {
@@ -162,7 +170,9 @@ public final class DeskEdgesTest {
         Talk.edge("12: NONE if there is no such puzzle", """
             settle([0 -1 MAX MIN]) -> -1; puzzle(2, 2, 1); settle([1 -1 30 MAX MIN]) -> -1; told(0, 4) -> 0
             """);
-        Talk.edge("12: only that puzzle's DESK", "puzzle(2, 2, 1); puzzle(2, 2, 1); settle(1) -> 1; told(0, 4) -> 0; told(1, 4) -> 4");
+        Talk.edge("12: only that puzzle's DESK", """
+            puzzle(2, 2, 1); puzzle(2, 2, 1); settle(1) -> 1; told(0, 4) -> 0; told(1, 4) -> 4
+            """);
     }
 
     /** Rows by what columns left a round ago, columns by what rows left in the same round. */

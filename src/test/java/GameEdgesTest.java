@@ -25,7 +25,8 @@ public final class GameEdgesTest {
 
     private static void game() {
         Talk.edge("22: A GAME of a puzzle begins: its number", """
-            puzzle(2, 2, 1); puzzle(3, 1, 1); game(1) -> 0; game(0) -> 1; game(1) -> 2; state([0 2], 0) -> 1; state(1, 0) -> 0
+            puzzle(2, 2, 1); puzzle(3, 1, 1); game(1) -> 0; game(0) -> 1; game(1) -> 2; state([0 2], 0) -> 1
+            state(1, 0) -> 0
             count(1) -> 3
             """);
         Talk.edge("22: NONE if there is no such puzzle", """
@@ -47,7 +48,8 @@ public final class GameEdgesTest {
             games.due("game(2)", -1).due("game(" + g % 2 + ")", g);
         }
         games.script("""
-            game([0 1]) -> -1; count(1) -> 20; state(19, 0) -> 1; state(20, 0) -> -1; mark(19, 0, 1) -> 1; mark(20, 0, 1) -> 0
+            game([0 1]) -> -1; count(1) -> 20; state(19, 0) -> 1; state(20, 0) -> -1; mark(19, 0, 1) -> 1
+            mark(20, 0, 1) -> 0
             puzzle(1, 1, 1) -> 2; game(2) -> -1; hint(20) -> -1; undo(20) -> -1; undo(19) -> 0
             """);
     }
@@ -58,7 +60,9 @@ public final class GameEdgesTest {
             mark(0, 3, -1) -> 1; marked(0, 3) -> -1; mark(0, 0, 3) -> 1; marked(0, 0) -> 3; marked(0, [1 2]) -> -1
             state(0, 4) -> 4; set(0, [0 3]) -> 15
             """);
-        Talk.edge("23: a MARK that BREAKS a LINE is one too", ONE_CELL + "mark(0, 0, 1) -> 1; state(0, 2) -> 2; marked(0, 0) -> 1");
+        Talk.edge("23: a MARK that BREAKS a LINE is one too", ONE_CELL + """
+            mark(0, 0, 1) -> 1; state(0, 2) -> 2; marked(0, 0) -> 1
+            """);
     }
 
     private static void marksThatAreSo() {
@@ -78,10 +82,12 @@ public final class GameEdgesTest {
             mark([1 -1 20 MAX MIN], 0, [0 1 -1]) -> 0; state(0, 4) -> 0; marked(0, 0) -> -1
             """);
         Talk.edge("23: false if there is no such cell", """
-            puzzle(3, 2, 1); game(0); mark(0, [6 7 -1 100 MAX MIN], [0 1 -1]) -> 0; state(0, 4) -> 0; mark(0, [0 5], 1) -> 1
+            puzzle(3, 2, 1); game(0); mark(0, [6 7 -1 100 MAX MIN], [0 1 -1]) -> 0; state(0, 4) -> 0
+            mark(0, [0 5], 1) -> 1
             """);
         Talk.edge("23: false if there is no such colour", """
-            puzzle(1, 1, 1); puzzle(1, 1, 2); puzzle(1, 1, 3); game(0); game(1); game(2); mark(0, 0, [2 3]) -> 0; mark(1, 0, 3) -> 0
+            puzzle(1, 1, 1); puzzle(1, 1, 2); puzzle(1, 1, 3); game(0); game(1); game(2); mark(0, 0, [2 3]) -> 0
+            mark(1, 0, 3) -> 0
             mark([0..2], 0, [4 5 -2 -3 32 256 MAX MIN]) -> 0; state([0..2], [1 4]) -> 0
             mark(0, 0, 1) -> 1; mark(1, 0, 2) -> 1; mark(2, 0, 3) -> 1
             """);
@@ -101,11 +107,13 @@ public final class GameEdgesTest {
             mark(1, 0, 1) -> 1
             """);
         after200Changes("23: fewer can be taken back, when one was").script("""
-            undo(0) -> 1; state(0, 4) -> 199; state(0, 5) -> 1; marked(0, 1) -> -1; mark(0, 1, 0) -> 1; state(0, 4) -> 200
+            undo(0) -> 1; state(0, 4) -> 199; state(0, 5) -> 1; marked(0, 1) -> -1; mark(0, 1, 0) -> 1
+            state(0, 4) -> 200
             state(0, 5) -> 0; mark(0, 1, 1) -> 0; redo(0) -> -1; undo(0) -> 1; undo(0) -> 0; marked(0, 0) -> 1
             """);
         after200Changes("23: what was done again can be taken back").script("""
-            undo(0) -> 1; undo(0) -> 0; redo(0) -> 0; redo(0) -> 1; redo(0) -> -1; mark(0, 1, 0) -> 0; state(0, 4) -> 200
+            undo(0) -> 1; undo(0) -> 0; redo(0) -> 0; redo(0) -> 1; redo(0) -> -1; mark(0, 1, 0) -> 0
+            state(0, 4) -> 200
             """);
         Talk back = after200Changes("25: all 200 changes are taken back, and no more").script("undo(0) -> 1");
         back.script("undo(0) -> 0;".repeat(199)).script("""
@@ -120,11 +128,14 @@ public final class GameEdgesTest {
             undo(0) -> 2; undo(0) -> 0; undo(0) -> -1; redo(0) -> 0; redo(0) -> 2; redo(0) -> -1; marked(0, 1) -> -1
             """);
         Talk.edge("23: not even if the new MARK is the one that was taken back", ONE_CELL + """
-            mark(0, 0, 1); mark(0, 0, 0); undo(0) -> 0; undo(0) -> 0; mark(0, 0, 1) -> 1; state(0, 5) -> 0; redo(0) -> -1
+            mark(0, 0, 1); mark(0, 0, 0); undo(0) -> 0; undo(0) -> 0; mark(0, 0, 1) -> 1; state(0, 5) -> 0
+            redo(0) -> -1
             """);
         Talk.edge("23: a MARK that is refused leaves what was taken back", """
-            puzzle(2, 1, 1); game(0); mark(0, 0, 1); mark(0, 1, 1); undo(0) -> 1; mark(0, 0, 1) -> 0; mark(0, 1, -1) -> 0
-            mark(0, 2, 1) -> 0; mark(0, 0, 2) -> 0; mark(1, 0, 1) -> 0; state(0, 5) -> 1; redo(0) -> 1; marked(0, 1) -> 1
+            puzzle(2, 1, 1); game(0); mark(0, 0, 1); mark(0, 1, 1); undo(0) -> 1; mark(0, 0, 1) -> 0
+            mark(0, 1, -1) -> 0
+            mark(0, 2, 1) -> 0; mark(0, 0, 2) -> 0; mark(1, 0, 1) -> 0; state(0, 5) -> 1; redo(0) -> 1
+            marked(0, 1) -> 1
             """);
     }
 
@@ -141,23 +152,29 @@ public final class GameEdgesTest {
     private static void undo() {
         Talk.edge("25: The latest change of MARKS that wasn't taken back is taken back: its cell", """
             puzzle(2, 2, 2); game(0); mark(0, 3, 1); mark(0, 3, 2); mark(0, 3, -1); mark(0, 0, 0)
-            undo(0) -> 0; marked(0, 0) -> -1; undo(0) -> 3; marked(0, 3) -> 2; undo(0) -> 3; marked(0, 3) -> 1; undo(0) -> 3
+            undo(0) -> 0; marked(0, 0) -> -1; undo(0) -> 3; marked(0, 3) -> 2; undo(0) -> 3; marked(0, 3) -> 1
+            undo(0) -> 3
             marked(0, 3) -> -1
             """);
         Talk.edge("25: NONE if there is none such", """
-            undo([0 -1 MAX MIN]) -> -1; puzzle(1, 1, 1); game(0); undo(0) -> -1; mark(0, 0, 1); undo(0) -> 0; undo(0) -> -1
+            undo([0 -1 MAX MIN]) -> -1; puzzle(1, 1, 1); game(0); undo(0) -> -1; mark(0, 0, 1); undo(0) -> 0
+            undo(0) -> -1
             state(0, 5) -> 1; undo([1 -1 20 MAX MIN]) -> -1; redo(0) -> 0; marked(0, 0) -> 1
             """);
-        Talk.edge("25: a MARK that was refused is no change", ONE_CELL + "mark(0, 0, [1 1 1 2]); undo(0) -> 0; undo(0) -> -1");
+        Talk.edge("25: a MARK that was refused is no change", ONE_CELL + """
+            mark(0, 0, [1 1 1 2]); undo(0) -> 0; undo(0) -> -1
+            """);
     }
 
     private static void redo() {
         Talk.edge("26: The change of MARKS that was taken back latest is done again: its cell", """
-            puzzle(2, 2, 2); game(0); mark(0, 3, 1); mark(0, 0, 2); mark(0, 3, -1); undo([0 0 0]); marked(0, [0..3]) -> -1
+            puzzle(2, 2, 2); game(0); mark(0, 3, 1); mark(0, 0, 2); mark(0, 3, -1); undo([0 0 0])
+            marked(0, [0..3]) -> -1
             redo(0) -> 3; marked(0, 3) -> 1; redo(0) -> 0; marked(0, 0) -> 2; redo(0) -> 3; marked(0, 3) -> -1
             """);
         Talk.edge("26: NONE if there is none such", """
-            redo([0 -1 MAX MIN]) -> -1; puzzle(1, 1, 1); game(0); redo(0) -> -1; mark(0, 0, 1); redo(0) -> -1; undo(0) -> 0
+            redo([0 -1 MAX MIN]) -> -1; puzzle(1, 1, 1); game(0); redo(0) -> -1; mark(0, 0, 1); redo(0) -> -1
+            undo(0) -> 0
             redo([1 -1 20 MAX MIN]) -> -1; redo(0) -> 0; redo(0) -> -1; state(0, 4) -> 1; undo(0) -> 0
             """);
     }
@@ -171,10 +188,12 @@ public final class GameEdgesTest {
             game(0); hint(0) -> 1; mark(0, 0, 1); hint(0) -> 4; mark(0, 1, 0); hint(0) -> 9
             """);
         Talk.ofClues("27: leaves one alone to a cell without a MARK", 3, 1, 1, "3a/1a/1a/1a").script("""
-            game(0); mark(0, 0, 1); mark(0, 1, 1); hint(0) -> 9; mark(0, 2, 1); hint(0) -> -1; mark(0, 1, -1); hint(0) -> 5
+            game(0); mark(0, 0, 1); mark(0, 1, 1); hint(0) -> 9; mark(0, 2, 1); hint(0) -> -1; mark(0, 1, -1)
+            hint(0) -> 5
             """);
         Talk.ofClues("27: by the MARKS, not by the DESK", 2, 2, 1, "1a/1a/1a/1a").script("""
-            game(0); choose(0, 0, 1); settle(0); hint(0) -> -1; mark(0, 3, 0); hint(0) -> 9; mark(0, 3, -1); hint(0) -> -1
+            game(0); choose(0, 0, 1); settle(0); hint(0) -> -1; mark(0, 3, 0); hint(0) -> 9; mark(0, 3, -1)
+            hint(0) -> -1
             """);
         Talk.ofClues("27: two LINES together force a cell, but none alone", 2, 2, 2, "1a/1b/1b/1a").script("""
             game(0); hint(0) -> -1; state(0, 6) -> 0; settle(0) -> 1; told(0, 4) -> 4
@@ -192,9 +211,12 @@ public final class GameEdgesTest {
     }
 
     private static void brokenHints() {
-        Talk.edge("27: if it is BROKEN, -2 less its number: the first LINE", ONE_CELL + "mark(0, 0, 1); hint(0) -> -2; state(0, 6) -> 1");
+        Talk.edge("27: if it is BROKEN, -2 less its number: the first LINE", ONE_CELL + """
+            mark(0, 0, 1); hint(0) -> -2; state(0, 6) -> 1
+            """);
         Talk.ofClues("27: a LINE ahead of the BROKEN one", 2, 2, 1, "1a/1a/1a/1a").script("""
-            game(0); mark(0, 2, 1); mark(0, 3, 1); hint(0) -> -3; mark(0, 0, 0); hint(0) -> 5; mark(0, 1, 0); hint(0) -> -2
+            game(0); mark(0, 2, 1); mark(0, 3, 1); hint(0) -> -3; mark(0, 0, 0); hint(0) -> 5; mark(0, 1, 0)
+            hint(0) -> -2
             state(0, 2) -> 2; state(0, 6) -> 3
             """);
         Talk.ofClues("27: a LINE that would force a cell, behind the BROKEN one", 2, 2, 1, "1a/2a/1a/2a").script("""
@@ -211,20 +233,25 @@ public final class GameEdgesTest {
             mark(0, 1, 0); mark(0, 2, 0); mark(0, 3, 1); hint(0) -> -1; state(0, 3) -> 1; state(0, 6) -> 1
             """);
         Talk.edge("27: NONE if there is no such GAME", """
-            hint([0 -1 MAX MIN]) -> -1; puzzle(1, 1, 1); hint(0) -> -1; game(0); hint([1 -1 20 MAX MIN]) -> -1; state(0, 6) -> 0
+            hint([0 -1 MAX MIN]) -> -1; puzzle(1, 1, 1); hint(0) -> -1; game(0); hint([1 -1 20 MAX MIN]) -> -1
+            state(0, 6) -> 0
             hint(0) -> 0; state(0, 6) -> 1
             """);
-        Talk.edge("27: a hint leaves the MARKS", ONE_CELL + "hint([0 0]) -> 0; marked(0, 0) -> -1; state(0, [1 4 5]) -> 0; state(0, 6) -> 2");
+        Talk.edge("27: a hint leaves the MARKS", ONE_CELL + """
+            hint([0 0]) -> 0; marked(0, 0) -> -1; state(0, [1 4 5]) -> 0; state(0, 6) -> 2
+            """);
     }
 
     private static void state() {
         Talk.edge("28: 1 cells with a MARK", """
-            puzzle(2, 2, 1); game(0); mark(0, [0 1], 0); mark(0, 2, 1); state(0, 1) -> 3; mark(0, 0, -1); state(0, 1) -> 2
+            puzzle(2, 2, 1); game(0); mark(0, [0 1], 0); mark(0, 2, 1); state(0, 1) -> 3; mark(0, 0, -1)
+            state(0, 1) -> 2
             mark(0, 1, 1); state(0, 1) -> 2; undo(0); undo(0); state(0, 1) -> 3; mark(0, 3, 1); state(0, 1) -> 4
             """);
         Talk.ofClues("28: 2 LINES that are BROKEN by the MARKS", 2, 2, 1, "1a/1a/1a/1a").script("""
             game(0); state(0, 2) -> 0; mark(0, 0, 1); state(0, 2) -> 0; mark(0, 1, 1); state(0, 2) -> 1; mark(0, 2, 1)
-            state(0, 2) -> 2; mark(0, 3, 1); state(0, 2) -> 4; undo(0); state(0, 2) -> 2; choose(0, 3, 1); state(0, 2) -> 2
+            state(0, 2) -> 2; mark(0, 3, 1); state(0, 2) -> 4; undo(0); state(0, 2) -> 2; choose(0, 3, 1)
+            state(0, 2) -> 2
             """);
         Talk.edge("28: 4 changes that can be taken back, 5 that can be done again", ONE_CELL + """
             state(0, [4 5]) -> 0; mark(0, 0, [0 1 0]); state(0, 4) -> 3; state(0, 5) -> 0; undo(0); state(0, 4) -> 2
@@ -233,14 +260,16 @@ public final class GameEdgesTest {
             """);
         Talk.ofClues("28: 6 hints that were given (no NONE)", 2, 1, 1, "1a/1a/0").script("""
             game(0); game(0); hint(0) -> 1; hint(0) -> 1; mark(0, 0, 1); hint(0) -> 4; mark(0, 1, 0); hint([0 0]) -> -1
-            state(0, 6) -> 3; mark(0, 1, 1); hint(0) -> -2; state(0, 6) -> 4; undo([0 0 0]); state(0, 6) -> 4; state(1, 6) -> 0
+            state(0, 6) -> 3; mark(0, 1, 1); hint(0) -> -2; state(0, 6) -> 4; undo([0 0 0]); state(0, 6) -> 4
+            state(1, 6) -> 0
             """);
     }
 
     private static void pictures() {
         Talk.ofClues("28: 3 whether the MARKS are a PICTURE", 2, 2, 1, "1a/1a/1a/1a").script("""
             game(0); state(0, 3) -> 0; mark(0, 0, 1); mark(0, 1, 0); mark(0, 2, 0); state(0, 3) -> 0; state(0, 2) -> 0
-            mark(0, 3, 1); state(0, 3) -> 1; mark(0, 3, 0); state(0, 3) -> 0; state(0, 1) -> 4; undo(0); state(0, 3) -> 1
+            mark(0, 3, 1); state(0, 3) -> 1; mark(0, 3, 0); state(0, 3) -> 0; state(0, 1) -> 4; undo(0)
+            state(0, 3) -> 1
             mark(0, 3, -1); state(0, 3) -> 0
             """);
         Talk.edge("28: a cell without a MARK isn't BLANK", """
@@ -258,7 +287,8 @@ public final class GameEdgesTest {
     private static void stateIsNone() {
         Talk.edge("28: NONE for others", ONE_CELL + "state(0, [7 8 -1 -2 MAX MIN]) -> -1");
         Talk.edge("28: NONE if there is no such GAME", """
-            state(0, [0..6]) -> -1; puzzle(1, 1, 1); state(0, [0..6]) -> -1; game(0); state([1 -1 20 MAX MIN], [0..7]) -> -1
+            state(0, [0..6]) -> -1; puzzle(1, 1, 1); state(0, [0..6]) -> -1; game(0)
+            state([1 -1 20 MAX MIN], [0..7]) -> -1
             """);
     }
 }

@@ -10,6 +10,15 @@ public final class ModelTest {
     };
     private static final int[] ODD = {-2, -1, 1000, Integer.MAX_VALUE, Integer.MIN_VALUE, 1 << 16, 32, 31};
 
+    private static final int[] NEAR_BOUNDS = {
+        Integer.MIN_VALUE, Integer.MIN_VALUE + 1, -100, -3, -2, -1, 0, 1, 2, 3, 4, 5, 6, 7, 8, 9, 10, 11, 12, 20, 30, 32, 99,
+        100, 200, 201, Integer.MAX_VALUE - 1, Integer.MAX_VALUE
+    };
+    // For calls with four arguments, which would be too many with all of the above.
+    private static final int[] NEAR_FEW_BOUNDS = {
+        Integer.MIN_VALUE, -2, -1, 0, 1, 2, 3, 4, 7, 10, 11, Integer.MAX_VALUE
+    };
+
     private final Random random;
     private final RunPictures real = new RunPictures();
     private final Model model = new Model();
@@ -26,9 +35,8 @@ public final class ModelTest {
             return -1;
         }
         calls++;
-        int[] a = Arrays.copyOf(args, 4);
-        long got = onReal(name, a);
-        long want = onModel(name, a);
+        long got = Calls.answer(real, name, args);
+        long want = Calls.answer(model, name, args);
         told.append(name).append(Arrays.toString(args)).append(" -> ").append(got).append('\n');
         if (got != want) {
             System.out.println(told);
@@ -36,76 +44,6 @@ public final class ModelTest {
             Check.end("ModelTest");
         }
         return (int) want;
-    }
-
-    private long onReal(String name, int[] a) {
-        return switch (name) {
-            case "puzzle" -> real.puzzle(a[0], a[1], a[2]);
-            case "run" -> real.run(a[0], a[1], a[2], a[3]);
-            case "told" -> real.told(a[0], a[1]);
-            case "clue" -> real.clue(a[0], a[1], a[2], a[3]);
-            case "fresh" -> real.fresh(a[0]) ? 1 : 0;
-            case "choose" -> real.choose(a[0], a[1], a[2]) ? 1 : 0;
-            case "bar" -> real.bar(a[0], a[1], a[2]) ? 1 : 0;
-            case "set" -> real.set(a[0], a[1]);
-            case "step" -> real.step(a[0], a[1]);
-            case "ways" -> real.ways(a[0], a[1]);
-            case "settle" -> real.settle(a[0]);
-            case "search" -> real.search(a[0], a[1], a[2]);
-            case "found" -> real.found(a[0]);
-            case "picture" -> real.picture(a[0], a[1]);
-            case "grade" -> real.grade(a[0]);
-            case "probes" -> real.probes();
-            case "paint" -> real.paint(a[0], a[1], a[2]) ? 1 : 0;
-            case "make" -> real.make(a[0], a[1], a[2]);
-            case "turn" -> real.turn(a[0], a[1]);
-            case "same" -> real.same(a[0], a[1]);
-            case "game" -> real.game(a[0]);
-            case "mark" -> real.mark(a[0], a[1], a[2]) ? 1 : 0;
-            case "marked" -> real.marked(a[0], a[1]);
-            case "undo" -> real.undo(a[0]);
-            case "redo" -> real.redo(a[0]);
-            case "hint" -> real.hint(a[0]);
-            case "state" -> real.state(a[0], a[1]);
-            case "write" -> real.write(a[0], a[1]);
-            case "out" -> real.out(a[0]);
-            default -> real.count(a[0]);
-        };
-    }
-
-    private long onModel(String name, int[] a) {
-        return switch (name) {
-            case "puzzle" -> model.puzzle(a[0], a[1], a[2]);
-            case "run" -> model.run(a[0], a[1], a[2], a[3]);
-            case "told" -> model.told(a[0], a[1]);
-            case "clue" -> model.clue(a[0], a[1], a[2], a[3]);
-            case "fresh" -> model.fresh(a[0]) ? 1 : 0;
-            case "choose" -> model.choose(a[0], a[1], a[2]) ? 1 : 0;
-            case "bar" -> model.bar(a[0], a[1], a[2]) ? 1 : 0;
-            case "set" -> model.set(a[0], a[1]);
-            case "step" -> model.step(a[0], a[1]);
-            case "ways" -> model.ways(a[0], a[1]);
-            case "settle" -> model.settle(a[0]);
-            case "search" -> model.search(a[0], a[1], a[2]);
-            case "found" -> model.found(a[0]);
-            case "picture" -> model.picture(a[0], a[1]);
-            case "grade" -> model.grade(a[0]);
-            case "probes" -> model.probes();
-            case "paint" -> model.paint(a[0], a[1], a[2]) ? 1 : 0;
-            case "make" -> model.make(a[0], a[1], a[2]);
-            case "turn" -> model.turn(a[0], a[1]);
-            case "same" -> model.same(a[0], a[1]);
-            case "game" -> model.game(a[0]);
-            case "mark" -> model.mark(a[0], a[1], a[2]) ? 1 : 0;
-            case "marked" -> model.marked(a[0], a[1]);
-            case "undo" -> model.undo(a[0]);
-            case "redo" -> model.redo(a[0]);
-            case "hint" -> model.hint(a[0]);
-            case "state" -> model.state(a[0], a[1]);
-            case "write" -> model.write(a[0], a[1]);
-            case "out" -> model.out(a[0]);
-            default -> model.count(a[0]);
-        };
     }
 
     private int below(int bound) {
@@ -223,7 +161,11 @@ public final class ModelTest {
         for (int i = 0; i < 15; i++) {
             call(below(3) == 0 ? "choose" : "bar", p, below(width * height), below(4));
             call("ways", p, below(width + height));
-            call(below(2) == 0 ? "settle" : "step", p, below(width + height));
+            if (below(2) == 0) {
+                call("settle", p);
+            } else {
+                call("step", p, below(width + height));
+            }
             call("search", p, below(20), 1 + below(5));
             call("found", -2);
         }
@@ -299,7 +241,44 @@ public final class ModelTest {
         }
     }
 
+    private void beginAnyhow() {
+        paintedPuzzle(4, 3, 2, 50);
+        call("game", paintedPuzzle(2, 2, 1, 50));
+        for (int i = 0; i < 30; i++) {
+            anyCall(4);
+        }
+    }
+
+    private boolean isUsedUp() {
+        return calls >= 512 || model.count(0) >= 30 || model.count(1) >= 20;
+    }
+
+    /** A call with each number that is next to a bound of the document, and the outermost ones, in each of its places. */
+    private static void callsNearBounds(String name) {
+        int places = Calls.arguments(name);
+        int[] numbers = places > 3 ? NEAR_FEW_BOUNDS : NEAR_BOUNDS;
+        int all = 1;
+        for (int i = 0; i < places; i++) {
+            all *= numbers.length;
+        }
+        ModelTest test = null;
+        for (int i = 0; i < all; i++) {
+            if (test == null || test.isUsedUp()) {
+                test = new ModelTest(i);
+                test.beginAnyhow();
+            }
+            int[] args = new int[places];
+            for (int k = 0, rest = i; k < places; k++, rest /= numbers.length) {
+                args[k] = numbers[rest % numbers.length];
+            }
+            test.call(name, args);
+        }
+    }
+
     public static void main(String[] args) {
+        for (String name : NAMES) {
+            callsNearBounds(name);
+        }
         int rounds = args.length > 0 ? Integer.parseInt(args[0]) : 200;
         long start = args.length > 1 ? Long.parseLong(args[1]) : 0;
         for (long seed = start; seed < start + rounds; seed++) {

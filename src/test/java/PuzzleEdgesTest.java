@@ -239,7 +239,8 @@ public final class PuzzleEdgesTest {
             told(1, 0) -> 1; told(1, 1) -> 10; told(1, 2) -> 1
             """);
         Talk.edge("4: 3 RUNS of all its LINES", """
-            puzzle(3, 2, 1); told(0, 3) -> 0; run(0, [0..4], 1, 1); told(0, 3) -> 5; run(0, 1, 1, 1) -> 2; told(0, 3) -> 6
+            puzzle(3, 2, 1); told(0, 3) -> 0; run(0, [0..4], 1, 1); told(0, 3) -> 5; run(0, 1, 1, 1) -> 2
+            told(0, 3) -> 6
             run(0, 1, 1, 1) -> -1; told(0, 3) -> 6
             """);
         Talk.edge("4: 4 cells whose SET on its DESK has one", """

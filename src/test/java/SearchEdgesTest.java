@@ -57,7 +57,8 @@ public final class SearchEdgesTest {
             search(0, 200, 2) -> 2; found(-2) -> 2; search(0, 200, 1) -> 1; found(-2) -> 1
             """);
         Talk.edge("13: limit 1 and 5, where one PICTURE is all", """
-            puzzle(1, 1, 1); search(0, 0, 1) -> 1; found(-1) -> 1; search(0, 200, 5) -> 1; found(-1) -> 1; found(-2) -> 0
+            puzzle(1, 1, 1); search(0, 0, 1) -> 1; found(-1) -> 1; search(0, 200, 5) -> 1; found(-1) -> 1
+            found(-2) -> 0
             """);
     }
 
@@ -135,7 +136,8 @@ public final class SearchEdgesTest {
 
     private static void refusedSearches() {
         two("13: NONE if there is no such limit").script("""
-            search(0, 200, [0 6 -1 -5 MAX MIN]) -> -1; search(0, 0, [0 6]) -> -1; search(0, 200, [1 2 2 1]); found(-1) -> 1
+            search(0, 200, [0 6 -1 -5 MAX MIN]) -> -1; search(0, 0, [0 6]) -> -1; search(0, 200, [1 2 2 1])
+            found(-1) -> 1
             """);
         two("13: NONE if there are no such tries").script("""
             search(0, [-1 201 202 -200 MAX MIN], [1 5]) -> -1; search(0, 200, 5) -> 2; search(0, 0, 5) -> -2
@@ -150,7 +152,9 @@ public final class SearchEdgesTest {
     }
 
     private static void found() {
-        Talk.edge("14: both 0 ahead of any", "found([-1 -2]) -> 0; puzzle(1, 1, 1); settle(0); grade(0); found([-1 -2]) -> 0");
+        Talk.edge("14: both 0 ahead of any", """
+            found([-1 -2]) -> 0; puzzle(1, 1, 1); settle(0); grade(0); found([-1 -2]) -> 0
+            """);
         two("14: how many PICTURES were found (also if it was out of TRIES)").script("""
             search(0, 1, 5) -> -2; found(-1) -> 1; found(-2) -> 1; picture(0, 1) -> 1; picture(1, 0) -> -1
             """);
@@ -174,7 +178,8 @@ public final class SearchEdgesTest {
             search(0, 200, 5) -> 5; picture([0..4], [9 10 99 100 -1 MAX MIN]) -> -1
             """);
         six("15: a wrong PICTURE and a wrong cell don't make up for one another").script("""
-            search(0, 200, 5) -> 5; picture(-1, [9 18 100 109]) -> -1; picture(1, [-9 -100 -1]) -> -1; picture(5, -9) -> -1
+            search(0, 200, 5) -> 5; picture(-1, [9 18 100 109]) -> -1; picture(1, [-9 -100 -1]) -> -1
+            picture(5, -9) -> -1
             picture([42949673 -42949672 477218589 1073741824], [0 4]) -> -1; picture(0, [65536 256]) -> -1
             """);
         Talk cells = new Talk("15: the cells of the puzzle that was searched, not of one searched ahead of it");
@@ -186,17 +191,27 @@ public final class SearchEdgesTest {
             search(0, 200, 5) -> 2; search(0, 0, 5) -> -2; picture([0 1], [0..3]) -> -1
             """);
         two("15: PICTURES stay, whatever comes to the puzzle").script("""
-            search(0, 200, 5) -> 2; choose(0, 0, 1); settle(0); turn(0, 1); puzzle(1, 1, 1); grade(1); game(0)
+            search(0, 200, 5) -> 2; choose(0, 0, 1); settle(0); turn(0, 1); puzzle(1, 1, 1); run(2, 0, 1, 1) -> 1
+            grade(1); game(0)
+            found([-1 -2]) -> 2
             """).rowDue("picture(0, ", "0110").rowDue("picture(1, ", "1001");
+        Talk.edge("15: PICTURES stay, when a RUN comes to the puzzle", """
+            puzzle(2, 1, 1); search(0, 0, 1) -> 1; run(0, 0, 1, 2) -> 1; found(-1) -> 1; picture(0, [0 1]) -> 0
+            picture(0, 2) -> -1
+            """);
         Talk most = new Talk("15: the last cell of the largest puzzle").script("puzzle(10, 10, 1); run(0, [9 19], 1, 1)");
         most.script("search(0, 0, 5) -> 1; picture(0, 99) -> 1; picture(0, 98) -> 0; picture(0, 100) -> -1");
     }
 
     private static void grades() {
         Talk.ofClues("Terms 2: A GRADE: BROKEN: 0", 2, 2, 1, "0/0/0/1a").script("grade(0) -> 0; probes() -> 0");
-        Talk.ofPicture("Terms 2: Each SET having one: 1", 1, "01010/11111/11111/01110/00100").script("grade(0) -> 1; probes() -> 0");
+        Talk.ofPicture("Terms 2: Each SET having one: 1", 1, "01010/11111/11111/01110/00100").script("""
+            grade(0) -> 1; probes() -> 0
+            """);
         Talk.edge("Terms 2: GRADE 1 of a puzzle without RUNS", "puzzle(10, 10, 3); grade(0) -> 1; probes() -> 0");
-        Talk.ofPicture("Terms 2: If each SET has one at last: 2", 1, "0110/1001").script("grade(0) -> 2; probes() -> 2");
+        Talk.ofPicture("Terms 2: If each SET has one at last: 2", 1, "0110/1001").script("""
+            grade(0) -> 2; probes() -> 2
+            """);
         two("Terms 2: else 3").script("grade(0) -> 3; probes() -> 8");
         Talk.ofClues("Terms 2: and the SETS SETTLE (BROKEN: the GRADE is 0)", 2, 7, 1, "1a/1a/1a/2a/1a/1a/1a/4a 1a/1a 2a")
             .script("grade(0) -> 0; probes() -> 1");
@@ -209,10 +224,14 @@ public final class SearchEdgesTest {
     }
 
     private static void fourHundredProbes() {
-        Talk.ofPicture("Terms 2: 3 with the 400th PROBE", 1, GRADE_3_AFTER_400_PROBES).script("grade(0) -> 3; probes() -> 400");
+        Talk.ofPicture("Terms 2: 3 with the 400th PROBE", 1, GRADE_3_AFTER_400_PROBES).script("""
+            grade(0) -> 3; probes() -> 400
+            """);
         Talk.ofPicture("Terms 2: Where a 401st PROBE would be: 4, at once (else 3)", 1, GRADE_3_AFTER_401_PROBES)
             .script("grade(0) -> 4; probes() -> 400; told(0, 4) -> 0");
-        Talk.ofClues("Terms 2: 0 with the 400th PROBE", 10, 7, 1, GRADE_0_AFTER_400_PROBES).script("grade(0) -> 0; probes() -> 400");
+        Talk.ofClues("Terms 2: 0 with the 400th PROBE", 10, 7, 1, GRADE_0_AFTER_400_PROBES).script("""
+            grade(0) -> 0; probes() -> 400
+            """);
         Talk.ofClues("Terms 2: Where a 401st PROBE would be: 4, at once (else 0)", 8, 8, 1, GRADE_0_AFTER_401_PROBES)
             .script("grade(0) -> 4; probes() -> 400");
         Talk.ofClues("Terms 2: Where a 401st PROBE would be: 4, at once (else 2)", 10, 10, 1, GRADE_2_AFTER_412_PROBES)

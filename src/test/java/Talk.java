@@ -1,5 +1,3 @@
-import java.lang.reflect.InvocationTargetException;
-import java.lang.reflect.Method;
 import java.util.ArrayList;
 import java.util.List;
 
@@ -78,55 +76,36 @@ final class Talk {
         for (int line = 0; line < lines.length; line++) {
             for (String run : lines[line].equals("0") ? new String[0] : lines[line].split(" ")) {
                 int last = run.length() - 1;
-                say("run(" + p + ", " + line + ", " + (run.charAt(last) - 'a' + 1) + ", " + run.substring(0, last) + ")");
+                int colour = run.charAt(last) - 'a' + 1;
+                String call = "run(" + p + ", " + line + ", " + colour + ", " + run.substring(0, last) + ")";
+                Check.holds(sentence + " | a run comes by " + call, say(call) > 0);
             }
         }
         return p;
     }
 
-    /** What a call with a number from 0 on as its last argument answers, signs one after the other, up to a bound. */
-    String row(String call, int bound) {
-        StringBuilder text = new StringBuilder();
-        for (int i = 0; i < bound; i++) {
-            text.append(say(call + i + ")"));
-        }
-        return text.toString();
-    }
-
+    /** What a call with a number from 0 on as its last argument answers, a digit each time. */
     Talk rowDue(String call, String want) {
-        Pictures.same(sentence + " | " + call + "0 ..)", row(call, want.length()), want);
+        StringBuilder got = new StringBuilder();
+        for (int i = 0; i < want.length(); i++) {
+            got.append(say(call + i + ")"));
+        }
+        Pictures.same(sentence + " | " + call + "0 ..)", got.toString(), want);
         return this;
     }
 
-    /** The answer to one call; a call that throws is told as a fault. */
+    /** The answer to one call. */
     long say(String call) {
         calls++;
         Check.holds(sentence + " | a test has at most " + MOST_CALLS + " calls of one object", calls <= MOST_CALLS);
         String name = call.substring(0, call.indexOf('('));
         String inside = call.substring(name.length() + 1, call.length() - 1).strip();
         String[] words = inside.isEmpty() ? new String[0] : inside.split(",");
-        Object[] numbers = new Object[words.length];
+        int[] numbers = new int[words.length];
         for (int i = 0; i < words.length; i++) {
             numbers[i] = (int) number(words[i].strip());
         }
-        try {
-            Object answer = methodOf(name).invoke(house, numbers);
-            return answer instanceof Boolean yes ? (yes ? 1 : 0) : (Integer) answer;
-        } catch (InvocationTargetException thrown) {
-            Check.holds(sentence + " | " + call + " threw " + thrown.getCause(), false);
-        } catch (IllegalAccessException hidden) {
-            Check.holds(call + " can be called", false);
-        }
-        return Long.MIN_VALUE;
-    }
-
-    private static Method methodOf(String name) {
-        for (Method method : RunPictures.class.getMethods()) {
-            if (method.getName().equals(name)) {
-                return method;
-            }
-        }
-        throw new IllegalArgumentException("no method " + name);
+        return Calls.answer(house, name, numbers);
     }
 
     private static long number(String word) {
